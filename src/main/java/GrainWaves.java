@@ -816,7 +816,6 @@ public final class GrainWaves {
         }
 
         void rewind() {
-            start = 0;
             end = 0;
         }
 

@@ -44,6 +44,9 @@ public final class AskedTest {
         kinds(g, 2, 7, true, true, true, false, false);
         traced(g, 0, 2 * (5 + 3 + 7), 12, 11, 10);
         traced(g, 1, 5 + 1000 + 30, 22, 21, 20, 12, 11, 10);
+        GrainWaves dark = withPlate("", 1);
+        traced(dark, 0, 2, 12, 11, 10);
+        traced(dark, 1, 1002, 22, 21, 20, 12, 11, 10);
     }
 
     private static void clear() {

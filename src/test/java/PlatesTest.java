@@ -64,7 +64,9 @@ public final class PlatesTest {
         GrainWaves g = new GrainWaves();
         Check.run(g, "point 0 0 0 3 0;");
         g.take(0, 0, 1, 1);
+        g.lose(1, 0);
         Check.due("lose(0, 0)", g.lose(0, 0), 9);
+        Check.status(g, "lose", 0);
         Check.due("lose(0, 0) again", g.lose(0, 0), Check.NONE);
         Check.status(g, "lose", 0);
         Check.due("lose(0, 15)", g.lose(0, 15), 0);
@@ -89,6 +91,9 @@ public final class PlatesTest {
         Check.due("grain(6, 0)", g.grain(6, 0), Check.BAD);
         Check.due("grain(3, -1)", g.grain(3, -1), Check.NULL);
         Check.status(g, "NULL", 1);
+        g.grain(4, -1);
+        Check.status(g, "a STEP", 0);
+        g.grain(3, 0);
         g.grain(4, 0);
         Check.status(g, "a grain", 0);
     }
@@ -125,9 +130,10 @@ public final class PlatesTest {
     private static void parts() {
         GrainWaves g = new GrainWaves();
         // o = 2 + 3i, r = 1 - 2i at place 5; |o| = 13, |r| = 5, r r = -3 - 4i.
-        Check.run(g, "point 0 1 1 2 0;point 0 1 1 3 1;point 1 1 1 1 0;point 1 1 1 2 3;");
+        Check.run(g, "point 0 1 1 2 0;point 0 1 1 3 1;point 1 1 1 1 0;point 1 1 1 2 3;point 1 0 0 3 1;");
         Check.due("part 0", g.parts(0, 1, 0, 2), 1);
         Check.number(g, 2, 5, 5, -10);
+        Check.number(g, 2, 0, 0, 27);
         Check.due("part 1", g.parts(0, 1, 1, 2), 1);
         Check.number(g, 2, 5, 13, -26);
         Check.due("part 2", g.parts(0, 1, 2, 2), 1);
@@ -175,10 +181,18 @@ public final class PlatesTest {
 
     private static void offRefused() {
         GrainWaves g = new GrainWaves();
+        for (int p = 1; p < 4; p++) {
+            g.take(p, 0, 0, 5);
+        }
+        Check.due("the first is missing", g.off(0, 0), Check.NULL);
+        g.take(0, 0, 0, 5);
+        g.lose(0, 7);
+        Check.due("of the first one is LOST", g.off(0, 0), Check.STATE);
+        g = new GrainWaves();
         for (int p = 0; p < 3; p++) {
             g.take(p, 0, 0, 5);
         }
-        Check.due("one is missing", g.off(0, 0), Check.NULL);
+        Check.due("the last is missing", g.off(0, 0), Check.NULL);
         Check.status(g, "NULL", 1);
         g.take(3, 0, 0, 5);
         Check.due("off(0, 0)", g.off(0, 0), 1);

@@ -53,6 +53,7 @@ public final class SearchesTest {
             }
             int near = nearOf(row);
             int n = 0;
+            g.drop(0);
             for (int other = 0; other < 625; other++) {
                 if (alike(row, other)) {
                     Check.due("fits of row " + row + ", number " + n, g.fits(near, 3, 3, n), other);
@@ -125,6 +126,8 @@ public final class SearchesTest {
                 Check.due("sum of " + mark, g.mark(2, mark, 0), sumOf(grains, mark));
                 Check.due("false of " + mark, g.mark(2, mark, 1), falseOf(grains, mark));
             }
+            g.drop(1);
+            g.mark(2, 0, trial % 2);
             Check.status(g, "mark", 0);
         }
     }

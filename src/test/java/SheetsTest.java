@@ -94,7 +94,9 @@ public final class SheetsTest {
         Check.due("copy back", g.copy(1, 0, 0, 0, 2), 2);
         g.lay(0, 0, 0);
         Check.number(g, 0, 0, 0, 163);
+        g.drop(5);
         Check.due("none at the ends", g.copy(0, 64, 1, 2, 0), 0);
+        Check.status(g, "copy", 0);
         copyRefused(g);
     }
 
@@ -120,6 +122,7 @@ public final class SheetsTest {
     private static void drop() {
         GrainWaves g = new GrainWaves();
         g.sheet(4, 1, 9);
+        Check.due("drop(5)", g.drop(5), Check.NULL);
         Check.due("drop(4)", g.drop(4), 9);
         Check.status(g, "drop", 0);
         Check.due("drop(4) again", g.drop(4), Check.NULL);

@@ -56,6 +56,9 @@ public final class TextsTest {
         Check.ran(g, "add 7 1;add 1 1;", 2);
         Check.number(g, 7, 0, -2, -5);
         Check.number(g, 1, 0, 0, -10);
+        Check.ran(g, "point 6 3 3 2 0;dim 6 3 3;point 6 3 3 9 0;turn 6 3 3 3;add 0 7;", 5);
+        Check.number(g, 6, 15, 0, -9);
+        Check.number(g, 0, 0, -2, -5);
         Check.ran(g, "wipe 1;\nway\n7 ; ", 2);
         Check.due("wiped", g.bright(1, Check.NONE), 0);
         GrainWaves h = new GrainWaves();
@@ -103,7 +106,12 @@ public final class TextsTest {
         Check.faulty(g, "plane 0 0 0 99999 0;", 12, 2);
         Check.faulty(g, "plane 0 0 0 100000 0;", 12, 1);
         Check.faulty(g, "plane 0 0 0 000001 0;", 12, 1);
+        Check.faulty(g, "dim 8 0 0;", 4, 2);
+        Check.faulty(g, "dim 0 4 0;", 6, 2);
         Check.faulty(g, "dim 0 3 4;", 8, 2);
+        Check.faulty(g, "turn 8 0 0 0;", 5, 2);
+        Check.faulty(g, "turn 0 4 0 0;", 7, 2);
+        Check.faulty(g, "turn 0 0 4 0;", 9, 2);
         Check.faulty(g, "turn 0 0 0 4;", 11, 2);
         Check.faulty(g, "add 7 8;", 6, 2);
         Check.faulty(g, "add 8 x;", 4, 2);
@@ -118,6 +126,13 @@ public final class TextsTest {
         Check.faulty(g, "Way 0;", 0, 1);
         Check.faulty(g, "way 0" + (char) 200 + ";", 5, 1);
         Check.faulty(g, "wayway 0;", 0, 1);
+        Check.faulty(g, "wayz 0;", 0, 1);
+        Check.faulty(g, "xay 0;", 0, 1);
+        Check.faulty(g, "way 0;way 1111;", 10, 2);
+        // What an earlier text left behind the end is not read.
+        Check.faulty(g, "way 0;wa", 6, 1);
+        Check.faulty(g, "way 0", 5, 1);
+        Check.faulty(g, "way 0;way 3", 11, 1);
         Check.faulty(g, "wa y 0;", 0, 1);
         Check.faulty(g, "wipe 8;", 5, 2);
         Check.ran(g, "wipe 0;", 1);

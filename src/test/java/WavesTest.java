@@ -24,6 +24,9 @@ public final class WavesTest {
         Check.number(g, 0, 9, 0, 3);
         Check.number(g, 0, 15, 4, 0);
         Check.due("all", g.bright(0, Check.NONE), 25);
+        Check.run(g, "point 2 0 0 480 1;");
+        Check.due("back of 480i", g.way(2, 1), 1);
+        Check.number(g, 2, 15, 0, 30);
         Check.run(g, "point 1 1 0 16 0;");
         Check.due("back of a point", g.way(1, 1), 1);
         Check.number(g, 1, 1, 0, -1);
@@ -36,6 +39,8 @@ public final class WavesTest {
         Check.run(g, "point 0 0 0 15 0;");
         Check.due("BACK of 15", g.way(0, 1), Check.STATE);
         Check.number(g, 0, 0, 15, 0);
+        Check.run(g, "wipe 0;point 0 0 0 24 1;");
+        Check.due("BACK of 24i", g.way(0, 1), Check.STATE);
         Check.due("way(8, 0)", g.way(8, 0), Check.BAD);
         Check.due("way(-1, 0)", g.way(-1, 0), Check.BAD);
         Check.due("way(0, 2)", g.way(0, 2), Check.BAD);
@@ -132,6 +137,7 @@ public final class WavesTest {
         Check.due("from dark", g.moved(2, 0, 0), Check.NONE);
         Check.due("to dark", g.moved(0, 2, 0), Check.NONE);
         Check.due("to itself", g.moved(0, 0, 0), 0);
+        Check.due("1 to itself", g.moved(0, 0, 1), 0);
         Check.due("moved(8, 0, 0)", g.moved(8, 0, 0), Check.BAD);
         Check.due("moved(0, 8, 0)", g.moved(0, 8, 0), Check.BAD);
         Check.due("moved(0, 0, 16)", g.moved(0, 0, 16), Check.BAD);
