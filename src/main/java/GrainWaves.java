@@ -8,6 +8,7 @@ public final class GrainWaves {
     private static final int FOUND = -1000010, FAULTY = -1000100;
     private static final int NULL = 1, PLACE = 2, KIND = 3, SIZE = 4, STORE = 5;
     private static final int SHEETS = 8, WAVES = 8, PLATES = 6, PLACES = 16;
+    private static final int EVERYWHERE = (1 << PLACES) - 1;
     private static final int LANES = 3, MOST_ITEMS = 64;
     private static final int MOST_PART = 1000000, MOST_STEP = 100000, WHITE = 255;
     private static final int THERE = 0, BACK = 1;
@@ -212,9 +213,9 @@ public final class GrainWaves {
         if (p.isMissing()) {
             return found(NULL);
         }
-        int was = p.grains[place];
-        p.grains[place] = Plate.LOST;
-        return fine(was == Plate.LOST ? NONE : was);
+        int was = p.told(place);
+        p.loseGrain(place);
+        return fine(was);
     }
 
     public int grain(int plate, int place) {
@@ -225,10 +226,7 @@ public final class GrainWaves {
         if (p.isMissing()) {
             return found(NULL);
         }
-        if (place < 0) {
-            return fine(p.step);
-        }
-        return fine(p.grains[place] == Plate.LOST ? NONE : p.grains[place]);
+        return fine(place < 0 ? p.step : p.told(place));
     }
 
     public int read(int plate, int with, int to) {
@@ -266,7 +264,7 @@ public final class GrainWaves {
             }
         }
         for (int k = 0; k < 4; k++) {
-            if (plates[p + k].lostOnes() > 0 || plates[p + k].step != plates[p].step) {
+            if (plates[p + k].lostSet != 0 || plates[p + k].step != plates[p].step) {
                 return STATE;
             }
         }
@@ -312,7 +310,7 @@ public final class GrainWaves {
     }
 
     public int mark(int plate, int mark, int what) {
-        if (!isPlate(plate) || !below(mark, Marks.ALL) || !below(what, 2)) {
+        if (!isPlate(plate) || !below(mark, EVERYWHERE + 1) || !below(what, 2)) {
             return BAD;
         }
         Plate p = plates[plate];
@@ -321,7 +319,7 @@ public final class GrainWaves {
         }
         int within = p.totalWithin(mark);
         // A SUM is twice what lies within the set, less what the whole plate has: so both order the MARKS alike.
-        return fine(what == 0 ? 2 * within - p.total() : marks.howManyReach(p, within));
+        return fine(what == 0 ? 2 * within - p.totalWithin(EVERYWHERE) : marks.howManyReach(p, within));
     }
 
     public int aim(int p, int q, int u, int v, int what) {
@@ -697,9 +695,9 @@ public final class GrainWaves {
 
     /** 16 GRAINS and a STEP; a STEP of 0 says that the plate is missing, as none that is there has it. */
     private static final class Plate {
-        static final int LOST = -1;
-
+        /** A GRAIN that is LOST stays here as 0, which is what it counts as in every sum. */
         final int[] grains = new int[PLACES];
+        int lostSet = 0;
         int step = 0;
 
         boolean isMissing() {
@@ -709,47 +707,45 @@ public final class GrainWaves {
         /** The step is known to be above 0. */
         void keepFringes(Wave a, Wave b, int newStep) {
             step = Math.max(newStep, 1);
+            lostSet = 0;
             for (int k = 0; k < PLACES; k++) {
                 long light = brightOf((long) a.re[k] + b.re[k], (long) a.im[k] + b.im[k]);
                 grains[k] = (int) Math.min(light / step, WHITE);
             }
         }
 
+        void loseGrain(int place) {
+            grains[place] = 0;
+            lostSet |= 1 << place;
+        }
+
+        int told(int place) {
+            return (lostSet >> place & 1) == 1 ? NONE : grains[place];
+        }
+
         int whiteOnes() {
-            return howMany(WHITE);
-        }
-
-        int lostOnes() {
-            return howMany(LOST);
-        }
-
-        int howMany(int grainSought) {
             int n = 0;
             for (int k = 0; k < PLACES; k++) {
-                if (grains[k] == grainSought) {
+                if (grains[k] == WHITE) {
                     n++;
                 }
             }
             return n;
         }
 
-        int shown(int place) {
-            return Math.max(grains[place], 0);
+        int lostOnes() {
+            return Integer.bitCount(lostSet);
         }
 
         long weight(int place) {
-            return (long) shown(place) * step;
-        }
-
-        int total() {
-            return totalWithin(Marks.ALL - 1);
+            return (long) grains[place] * step;
         }
 
         int totalWithin(int set) {
             int sum = 0;
             for (int k = 0; k < PLACES; k++) {
                 if ((set >> k & 1) == 1) {
-                    sum += shown(k);
+                    sum += grains[k];
                 }
             }
             return sum;
@@ -758,15 +754,14 @@ public final class GrainWaves {
         int greatest() {
             int most = 0;
             for (int k = 0; k < PLACES; k++) {
-                most = Math.max(most, shown(k));
+                most = Math.max(most, grains[k]);
             }
             return most;
         }
 
         int kindTold() {
-            int lost = lostOnes();
-            if (lost > 0) {
-                return lost >= BLIND_FROM ? BLIND : TORN;
+            if (lostSet != 0) {
+                return lostOnes() >= BLIND_FROM ? BLIND : TORN;
             }
             return whiteOnes() == 0 ? FULLY : CLEAR;
         }
@@ -1063,7 +1058,7 @@ public final class GrainWaves {
 
     /** How many MARKS reach a sum: two rising rows of 256 sums each say it without all 65536 being tried. */
     private static final class Marks {
-        static final int ALL = 65536, HALF = 8, SUMS = 256;
+        static final int HALF = 8, SUMS = 256;
 
         final int[] lower = new int[SUMS];
         final int[] upper = new int[SUMS];
@@ -1086,7 +1081,7 @@ public final class GrainWaves {
         void sumUp(Plate p, int from, int[] sums) {
             sums[0] = 0;
             for (int k = 0; k < HALF; k++) {
-                merge(sums, 1 << k, p.shown(from + k));
+                merge(sums, 1 << k, p.grains[from + k]);
             }
         }
 
@@ -1163,7 +1158,7 @@ public final class GrainWaves {
 
         int sizeLent(Plate p) {
             begin(10);
-            return p.total();
+            return p.totalWithin(EVERYWHERE);
         }
 
         int sizeOfClear(Plate p) {

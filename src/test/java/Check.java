@@ -61,6 +61,10 @@ final class Check {
         due("status after " + after, g.status(), want);
     }
 
+    static int wrongOnes() {
+        return wrong;
+    }
+
     static void finish() {
         if (wrong != 0) {
             System.out.println(wrong + " answers are not as due");

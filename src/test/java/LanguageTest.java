@@ -46,8 +46,7 @@ public final class LanguageTest {
         Class<GrainWaves> c = GrainWaves.class;
         holds("public and final", Modifier.isPublic(c.getModifiers()) && Modifier.isFinal(c.getModifiers()));
         TreeSet<String> due = new TreeSet<>(List.of(FACE.split(" ")));
-        TreeSet<String> names = new TreeSet<>();
-        due.forEach(m -> names.add(m.substring(0, m.indexOf('('))));
+        TreeSet<String> names = facesNames();
         for (Method m : c.getDeclaredMethods()) {
             if (Modifier.isPrivate(m.getModifiers())) {
                 holds("private " + m.getName() + " has a name of its own", !names.contains(m.getName()));
@@ -63,6 +62,14 @@ public final class LanguageTest {
         Constructor<?>[] makers = c.getDeclaredConstructors();
         holds("one constructor, public, of nothing",
             makers.length == 1 && Modifier.isPublic(makers[0].getModifiers()) && makers[0].getParameterCount() == 0);
+    }
+
+    private static TreeSet<String> facesNames() {
+        TreeSet<String> names = new TreeSet<>();
+        for (String method : FACE.split(" ")) {
+            names.add(method.substring(0, method.indexOf('(')));
+        }
+        return names;
     }
 
     private static String told(Method m) {
@@ -108,15 +115,9 @@ public final class LanguageTest {
         while (imports.find()) {
             holds("import " + imports.group(1), List.of("java.util.Arrays").contains(imports.group(1)));
         }
-        int from = -1;
-        String[] lines = code.split("\n");
-        for (int k = 0; k < lines.length; k++) {
-            if (lines[k].matches("    (    )?\\S.*\\) \\{")) {
-                from = k;
-            } else if (lines[k].matches("    (    )?\\}")) {
-                holds("a short method up to line " + (k + 1), from < 0 || k - from <= 60);
-                from = -1;
-            }
-        }
+        Methods methods = new Methods(code);
+        methods.lengths.forEach((name, lines) -> holds("a short method " + name, lines <= 60));
+        holds("each method of the face is seen", methods.lengths.keySet().containsAll(facesNames()));
+        holds("calls go at most 8 deep, but go " + methods.deepest(), methods.deepest() <= 8);
     }
 }
